@@ -92,13 +92,11 @@ public final class LzmaChains {
             packer.noteChunks();
         } else {
             packer.writeStart();
-            int from = 0;
-            while (from < input.size && output.size <= MOST_OUT) {
-                int to = packer.endOfBlock(from);
+            for (int from = 0; from < input.size && output.size <= MOST_OUT; from += settings.block) {
+                int to = Math.min(from + settings.block, input.size);
                 packer.writeHead(from, to);
                 packer.writeChunks(from, to);
                 packer.writeTail(from, to);
-                from = to;
             }
             packer.writeIndex();
             packer.writeFoot();
@@ -440,6 +438,7 @@ public final class LzmaChains {
      */
     private static final class Coder {
         private static final long TOP = 1L << 24;
+        // A CODE that is RANGE or more stays so for ever: it may stop growing long before it wraps.
         private static final long MOST_CODE = 1L << 40;
 
         final int[] chances;
@@ -482,48 +481,49 @@ public final class LzmaChains {
             }
             int chance = chances[place];
             long bound = (range >>> 11) * chance;
-            int bit = opening ? (code < bound ? 0 : 1) : given;
-            if (bit == 0) {
+            int found = opening ? (code < bound ? 0 : 1) : given;
+            if (found == 0) {
                 range = bound;
                 chances[place] = chance + (2048 - chance >> 5);
             } else {
                 range -= bound;
-                low += bound;
-                code -= bound;
+                skip(bound);
                 chances[place] = chance - (chance >> 5);
             }
             if (range < TOP) {
                 range <<= 8;
                 if (opening) {
-                    nextCode(source.next());
+                    code = Math.min(code << 8 | source.next(), MOST_CODE);
                 } else {
                     shift();
                 }
             }
-            return bit;
+            return found;
         }
 
         int plainBit(int given) {
             range >>>= 1;
-            int bit = opening ? (code < range ? 0 : 1) : given;
-            if (bit != 0) {
-                low += range;
-                code -= range;
+            int found = opening ? (code < range ? 0 : 1) : given;
+            if (found != 0) {
+                skip(range);
             }
             if (range < TOP) {
                 range <<= 8;
                 if (opening) {
-                    nextCode(source.next());
+                    code = Math.min(code << 8 | source.next(), MOST_CODE);
                 } else {
                     shift();
                 }
             }
-            return bit;
+            return found;
         }
 
-        // A CODE that is RANGE or more stays so for ever: it may stop growing long before it wraps.
-        void nextCode(int b) {
-            code = Math.min(code << 8 | b, MOST_CODE);
+        void skip(long part) {
+            if (opening) {
+                code -= part;
+            } else {
+                low += part;
+            }
         }
 
         void shift() {
@@ -561,9 +561,9 @@ public final class LzmaChains {
             int m = 1;
             int found = 0;
             for (int i = 0; i < bits; i++) {
-                int bit = bit(base + m, given >> i & 1);
-                m = m << 1 | bit;
-                found |= bit << i;
+                int next = bit(base + m, given >> i & 1);
+                m = m << 1 | next;
+                found |= next << i;
             }
             return found;
         }
@@ -954,16 +954,17 @@ public final class LzmaChains {
 
         // Going backwards, a run of equal bytes is one longer than that of the next place.
         void findLongest(int dictionary) {
+            int[] data = row.data;
             Arrays.fill(runs, 0);
-            for (int place = to - 1; place >= from; place--) {
+            for (int place = Math.min(to, data.length) - 1; place >= from; place--) {
                 int most = Math.min(Math.min(dictionary, place - base), MOST_INPUT);
                 int best = 0;
                 int bestFar = 0;
-                int here = row.get(place);
                 for (int d = 1; d <= most; d++) {
-                    runs[d] = here == row.get(place - d) ? runs[d] + 1 : 0;
-                    if (runs[d] > best && best < LONGEST_COPY) {
-                        best = Math.min(runs[d], LONGEST_COPY);
+                    int run = data[place] == data[place - d] ? runs[d] + 1 : 0;
+                    runs[d] = run;
+                    if (run > best && best < LONGEST_COPY) {
+                        best = Math.min(run, LONGEST_COPY);
                         bestFar = d;
                     }
                 }
@@ -1129,7 +1130,7 @@ public final class LzmaChains {
         void writeBits(int base, int from, int to, boolean marked) {
             chooser.prepare(base, from, to, settings.dictionary, level);
             model.coder.beginPacking();
-            for (int place = from; place < to; place += chooser.length) {
+            for (int place = from; place < to; place += Math.max(1, chooser.length)) {
                 chooser.choose(level, place);
                 writeChoice(base, place);
             }
@@ -1250,10 +1251,6 @@ public final class LzmaChains {
         void writeFlags() {
             output.put(0);
             output.put(settings.check);
-        }
-
-        int endOfBlock(int from) {
-            return Math.min(from + settings.block, input.size);
         }
 
         // The check is of the bytes as they were fed, so it is taken before the filters change them;
