@@ -330,12 +330,29 @@ public final class PromisesTest {
             "0,0,1,0 0,1,1,0 0,2,1,0 1,3,2,2 1,5,2,5 1,7,3,6 5,10,2,1", 11);
         chosen("ddccdd", 0, "0,0,1,0 6,1,1,1 0,2,1,0 6,3,1,1 1,4,2,4", 10);
         chosen("ddccdd", 2, "0,0,1,0 0,1,1,0 0,2,1,0 0,3,1,0 1,4,2,4", 7);
+        chosen("ffffdbffdbffdbffdbffdbffff", 2,
+            "0,0,1,0 2,1,3,1 0,4,1,0 0,5,1,0 1,6,17,4 3,23,3,1", 11);
+        chosen("hfeeehfeeehfeeehfeeehfehf", 2, "0,0,1,0 0,1,1,0 0,2,1,0 2,3,2,1 1,5,17,5 1,22,3,3", 10);
+        longerAtTheNext(31, "0,66,1,0 1,67,33,35");
+        longerAtTheNext(32, "1,68,32,68 1,100,3,36");
         LzmaChains run = fed(0, same(548, 65));
         run.pack(0);
         DUE.same("copies of 273 at most", Due.steps(run), "0,0,1,0 2,1,273,1 2,274,273,1 6,547,1,1");
         DUE.same("their STATE", run.state(), 11);
         twoFarAway(128, "1,130,2,128 0,132,1,0");
         twoFarAway(129, "0,131,1,0 0,132,1,0 0,133,1,0");
+    }
+
+    /** LEVEL 1 looks at the next place only behind a LENGTH below 32. */
+    private static void longerAtTheNext(int length, String steps) {
+        StringBuilder row = new StringBuilder();
+        for (int i = 0; i < length + 2; i++) {
+            row.append((char) (128 + i));
+        }
+        LzmaChains x = fed(0, "d" + row.substring(0, length - 1) + "e" + row + "fd" + row);
+        x.pack(1);
+        int n = x.step(-1, 0);
+        DUE.same("a LENGTH of " + length + ", then one of 2 more", Due.steps(x, n - 2, n), steps);
     }
 
     /** Two equal bytes are a MATCH up to 128 away, and two LITERALs from there on. */
