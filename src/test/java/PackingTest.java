@@ -1,8 +1,9 @@
 import java.util.zip.CRC32;
 
 /**
- * Packing with many settings, against what a model of its own in another language answered: OUT,
- * choices, STATE and blocks. What was packed is then opened again.
+ * Packing with many settings, against what a second model answered (written in Python from the same
+ * document by the same author, not kept here): OUT, choices, STATE and blocks. What was packed is then
+ * opened again.
  */
 public final class PackingTest {
     private static final Due DUE = new Due("PackingTest");

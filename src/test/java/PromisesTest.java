@@ -399,7 +399,7 @@ public final class PromisesTest {
         DUE.same("no OUT", again.count(1), 0);
     }
 
-    /** What another program has packed. */
+    /** What liblzma has packed. */
     private static void opensAs(String hex, int form, String due) {
         LzmaChains x = fed(form, Due.bytes(hex));
         DUE.same("open", x.open(1 << 20), due.length() / 2);

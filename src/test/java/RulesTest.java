@@ -1,6 +1,7 @@
 /**
  * Each RULE that an opening may break: what open() and rule() answer, what OUT, STATE, choices and
- * blocks are then. The streams were made by a coder of its own, not by LzmaChains.
+ * blocks are then. Streams and answers come from a second model (written in Python from the same
+ * document by the same author, not kept here), not from LzmaChains.
  */
 public final class RulesTest {
     private static final Due DUE = new Due("RulesTest");
