@@ -1,6 +1,9 @@
+import java.util.zip.CRC32;
+
 /** Counts the answers that are not the ones due, and puts bytes into objects and takes them out. */
 final class Due {
     private final String name;
+    private String sentence = "";
     private int asked;
     private int wrong;
 
@@ -8,19 +11,20 @@ final class Due {
         this.name = name;
     }
 
+    /** The document's words that are asked for from here on. */
+    void sentence(String words) {
+        sentence = "\"" + words + "\": ";
+    }
+
     void same(String call, long got, long want) {
-        asked++;
-        if (got != want) {
-            wrong++;
-            System.out.println(name + ": " + call + " answered " + got + ", due is " + want);
-        }
+        same(call, Long.toString(got), Long.toString(want));
     }
 
     void same(String call, String got, String want) {
         asked++;
         if (!got.equals(want)) {
             wrong++;
-            System.out.println(name + ": " + call + " answered " + got + ", due is " + want);
+            System.out.println(name + ": " + sentence + call + " answered " + got + ", due is " + want);
         }
     }
 
@@ -40,6 +44,30 @@ final class Due {
         if (wrong != 0) {
             System.exit(1);
         }
+    }
+
+    static LzmaChains fed(int form, byte[] bytes) {
+        LzmaChains x = new LzmaChains(form);
+        put(x, bytes);
+        return x;
+    }
+
+    static LzmaChains fed(int form, String text) {
+        return fed(form, text(text));
+    }
+
+    /** So many equal bytes. */
+    static byte[] run(int size, int b) {
+        byte[] bytes = new byte[size];
+        java.util.Arrays.fill(bytes, (byte) b);
+        return bytes;
+    }
+
+    /** Bytes without a chain, which no way of choosing makes smaller. */
+    static byte[] wild(int size) {
+        byte[] bytes = new byte[size];
+        new java.util.Random(7).nextBytes(bytes);
+        return bytes;
     }
 
     static byte[] bytes(String hex) {
@@ -93,9 +121,15 @@ final class Due {
         return hex(out(x));
     }
 
-    /** OUT as hex if it is short, else how many bytes and their CRC32. */
+    /** OUT as hex if it is short, else how many bytes and their CRC32, so that an object's 512 calls last. */
     static String brief(LzmaChains x) {
         return x.count(1) <= 40 ? outHex(x) : x.count(1) + ":" + Integer.toHexString(x.check(1, 0));
+    }
+
+    static String brief(byte[] b) {
+        CRC32 crc = new CRC32();
+        crc.update(b);
+        return b.length <= 40 ? hex(b) : b.length + ":" + Integer.toHexString((int) crc.getValue());
     }
 
     /** All choices as kind,place,length,far; with a blank between two. */

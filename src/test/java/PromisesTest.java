@@ -37,29 +37,6 @@ public final class PromisesTest {
         DUE.finish();
     }
 
-    private static LzmaChains fed(int form, byte[] bytes) {
-        LzmaChains x = new LzmaChains(form);
-        Due.put(x, bytes);
-        return x;
-    }
-
-    private static LzmaChains fed(int form, String text) {
-        return fed(form, Due.text(text));
-    }
-
-    private static byte[] same(int size, int b) {
-        byte[] bytes = new byte[size];
-        java.util.Arrays.fill(bytes, (byte) b);
-        return bytes;
-    }
-
-    /** Bytes without a chain, which no way of choosing makes smaller. */
-    private static byte[] wild(int size) {
-        byte[] bytes = new byte[size];
-        new java.util.Random(7).nextBytes(bytes);
-        return bytes;
-    }
-
     private static void aNewObject() {
         int[] forms = {0, 1, 2, 3, -1, Integer.MAX_VALUE, Integer.MIN_VALUE};
         String[] empty = {EMPTY_ALONE, "00", EMPTY_BOX};
@@ -75,10 +52,10 @@ public final class PromisesTest {
             x.pack(0);
             DUE.same("form " + form + " packed empty", Due.outHex(x), empty[form == 1 || form == 2 ? form : 0]);
         }
-        LzmaChains chunks = fed(1, same(1025, 65));
+        LzmaChains chunks = Due.fed(1, Due.run(1025, 65));
         chunks.pack(0);
         DUE.same("CHUNK 512 at first", chunks.block(0, 4), 3);
-        LzmaChains box = fed(2, same(1025, 65));
+        LzmaChains box = Due.fed(2, Due.run(1025, 65));
         box.pack(0);
         DUE.same("BLOCK 1,024 at first", Due.blocks(box), "12,12,29,1024,2 60,12,5,1,1");
         DUE.same("BAD", LzmaChains.BAD, -1);
@@ -118,7 +95,7 @@ public final class PromisesTest {
     }
 
     private static void propertyInUse() {
-        LzmaChains x = fed(0, "A");
+        LzmaChains x = Due.fed(0, "A");
         x.property(0, 1);
         x.property(1, 3);
         x.property(2, 4);
@@ -131,22 +108,22 @@ public final class PromisesTest {
         DUE.same("dictionary, high", x.out(2), 1);
         DUE.same("size all 255", x.out(5) & x.out(12), 255);
         DUE.same("END MARK", Due.steps(x), "0,0,1,0 7,1,0,0");
-        LzmaChains small = fed(0, "abcdefabcdef");
+        LzmaChains small = Due.fed(0, "abcdefabcdef");
         small.property(3, 5);
         small.pack(0);
         DUE.same("no copy from beyond the dictionary", small.step(-1, 0), 12);
-        LzmaChains wide = fed(0, "abcdefabcdef");
+        LzmaChains wide = Due.fed(0, "abcdefabcdef");
         wide.property(3, 6);
         wide.pack(0);
         DUE.same("a copy from the dictionary's edge", Due.steps(wide, 6, 7), "1,6,6,6");
-        LzmaChains chunks = fed(1, "abcdefghij");
+        LzmaChains chunks = Due.fed(1, "abcdefghij");
         chunks.property(4, 4);
         chunks.pack(0);
         DUE.same("CHUNK 4", Due.outHex(chunks), "0100036162636402000365666768020001696a00");
         int[] kinds = {0, 1, 4, 10};
         int[] sizes = {0, 4, 8, 32};
         for (int i = 0; i < 4; i++) {
-            LzmaChains box = fed(2, "abc");
+            LzmaChains box = Due.fed(2, "abc");
             box.property(6, kinds[i]);
             DUE.same("a box with check " + kinds[i], box.pack(0), 12 + 12 + 8 + sizes[i] + 8 + 12);
             DUE.same("the kind in it", box.out(7), kinds[i]);
@@ -172,12 +149,12 @@ public final class PromisesTest {
         DUE.same("DELTA in a box", filtered(2, 0), "0201030101210100|0100020a1414");
         DUE.same("BRANCH in a box", filtered(0, 1), "0201070021010000|0100020a141e");
         DUE.same("no filter in a box", filtered(0, 0), "0200210100000000|0100020a141e");
-        LzmaChains x = fed(1, new byte[] {10, 20, 30});
+        LzmaChains x = Due.fed(1, new byte[] {10, 20, 30});
         x.filter(0, 1);
         x.filter(1, 1);
         x.pack(0);
         DUE.same("no filter in form 1", Due.outHex(x), "0100020a141e00");
-        LzmaChains both = fed(2, new byte[] {1, 0, 0, -21, 1, 0, 0, -22, 2, 0, 0, -21});
+        LzmaChains both = Due.fed(2, new byte[] {1, 0, 0, -21, 1, 0, 0, -22, 2, 0, 0, -21});
         both.filter(0, 4);
         both.filter(1, 1);
         both.property(5, 8);
@@ -192,7 +169,7 @@ public final class PromisesTest {
 
     /** The head of the first block without its CRC32, and its first chunk. */
     private static String filtered(int delta, int branch) {
-        LzmaChains x = fed(2, new byte[] {10, 20, 30});
+        LzmaChains x = Due.fed(2, new byte[] {10, 20, 30});
         x.filter(0, 5);
         x.filter(1, 1 - branch);
         x.filter(0, delta);
@@ -253,7 +230,7 @@ public final class PromisesTest {
         DUE.same("octet(0x1ff)", x.octet(0x1ff), 4);
         x.pack(0);
         DUE.same("the lowest 8 bits", Due.outHex(x), "01000307ff00ff00");
-        Due.put(x, same(1500, 1));
+        Due.put(x, Due.run(1500, 1));
         DUE.same("octet above 1,500", x.octet(1), LzmaChains.FULL);
         DUE.same("input then", x.count(0), 1500);
         x.end(19);
@@ -264,14 +241,14 @@ public final class PromisesTest {
         String[] due = {ALONE, CHUNKS, BOX};
         for (int form = 0; form < 3; form++) {
             for (int level = 0; level < 3; level++) {
-                LzmaChains x = fed(form, TEXT);
+                LzmaChains x = Due.fed(form, TEXT);
                 DUE.same("pack", x.pack(level), due[form].length() / 2);
                 DUE.same("packed in form " + form, Due.outHex(x), due[form]);
                 DUE.same("the input is empty", x.count(0), 0);
                 DUE.same("choices in form " + form, Due.steps(x), STEPS);
             }
         }
-        LzmaChains x = fed(1, TEXT);
+        LzmaChains x = Due.fed(1, TEXT);
         x.pack(0);
         Due.put(x, Due.text("next"));
         int[] bad = {-1, 3, Integer.MAX_VALUE, Integer.MIN_VALUE};
@@ -283,7 +260,7 @@ public final class PromisesTest {
             DUE.same("blocks then", Due.blocks(x), "0,0,23,38,1");
             DUE.same("STATE then", x.state(), 10);
         }
-        LzmaChains opened = fed(1, new byte[] {5});
+        LzmaChains opened = Due.fed(1, new byte[] {5});
         opened.open(4096);
         opened.pack(7);
         DUE.same("the rule stays at a bad LEVEL", opened.rule(), 5);
@@ -294,10 +271,10 @@ public final class PromisesTest {
     }
 
     private static void packFull() {
-        LzmaChains x = fed(1, TEXT);
+        LzmaChains x = Due.fed(1, TEXT);
         x.property(4, 1);
         x.pack(0);
-        Due.put(x, same(750, 3));
+        Due.put(x, Due.run(750, 3));
         DUE.same("pack above 3,000 by one", x.pack(0), LzmaChains.FULL);
         DUE.same("OUT then", x.count(1), 0);
         DUE.same("input then", x.count(0), 0);
@@ -306,17 +283,17 @@ public final class PromisesTest {
         DUE.same("STATE then", x.state(), -1);
         DUE.same("rule then", x.rule(), 0);
         DUE.throwsAt("out then", x, 0);
-        Due.put(x, same(749, 3));
+        Due.put(x, Due.run(749, 3));
         DUE.same("pack just below 3,000", x.pack(0), 2997);
         DUE.same("STATE of plain chunks", x.state(), 0);
-        LzmaChains box = fed(2, same(1500, 3));
+        LzmaChains box = Due.fed(2, Due.run(1500, 3));
         box.property(5, 1);
         DUE.same("a box above 3,000", box.pack(2), LzmaChains.FULL);
         DUE.same("its blocks then", box.block(-1, 0), 0);
     }
 
     private static void chosen(String text, int level, String steps, int state) {
-        LzmaChains x = fed(0, text);
+        LzmaChains x = Due.fed(0, text);
         x.pack(level);
         DUE.same("LEVEL " + level + " of " + text, Due.steps(x), steps);
         DUE.same("STATE of it", x.state(), state);
@@ -335,7 +312,7 @@ public final class PromisesTest {
         chosen("hfeeehfeeehfeeehfeeehfehf", 2, "0,0,1,0 0,1,1,0 0,2,1,0 2,3,2,1 1,5,17,5 1,22,3,3", 10);
         longerAtTheNext(31, "0,66,1,0 1,67,33,35");
         longerAtTheNext(32, "1,68,32,68 1,100,3,36");
-        LzmaChains run = fed(0, same(548, 65));
+        LzmaChains run = Due.fed(0, Due.run(548, 65));
         run.pack(0);
         DUE.same("copies of 273 at most", Due.steps(run), "0,0,1,0 2,1,273,1 2,274,273,1 6,547,1,1");
         DUE.same("their STATE", run.state(), 11);
@@ -349,7 +326,7 @@ public final class PromisesTest {
         for (int i = 0; i < length + 2; i++) {
             row.append((char) (128 + i));
         }
-        LzmaChains x = fed(0, "d" + row.substring(0, length - 1) + "e" + row + "fd" + row);
+        LzmaChains x = Due.fed(0, "d" + row.substring(0, length - 1) + "e" + row + "fd" + row);
         x.pack(1);
         int n = x.step(-1, 0);
         DUE.same("a LENGTH of " + length + ", then one of 2 more", Due.steps(x, n - 2, n), steps);
@@ -364,7 +341,7 @@ public final class PromisesTest {
         bytes[away + 2] = 2;
         bytes[away + 3] = 3;
         bytes[away + 4] = (byte) 255;
-        LzmaChains x = fed(0, bytes);
+        LzmaChains x = Due.fed(0, bytes);
         x.pack(0);
         DUE.same("two bytes " + away + " away", Due.steps(x, away + 2, x.step(-1, 0)), steps);
     }
@@ -372,7 +349,7 @@ public final class PromisesTest {
     private static void open() {
         String[] packed = {ALONE, CHUNKS, BOX};
         for (int form = 0; form < 3; form++) {
-            LzmaChains x = fed(form, Due.bytes(packed[form]));
+            LzmaChains x = Due.fed(form, Due.bytes(packed[form]));
             DUE.same("open", x.open(4096), 38);
             DUE.same("OUT", Due.outHex(x), Due.hex(Due.text(TEXT)));
             DUE.same("the input is empty", x.count(0), 0);
@@ -390,24 +367,24 @@ public final class PromisesTest {
         }
         opensAs("fd377a585a0000016922de36040303010307000301002101010000009bf2ae6ae00023000cd80001bfbc2e80a80370c0"
             + "00000000b93d7c0400012c24543ab4259042990d010000000001595a", 2, nine.toString());
-        LzmaChains cut = fed(0, Due.bytes(ALONE.substring(0, ALONE.length() - 2)));
+        LzmaChains cut = Due.fed(0, Due.bytes(ALONE.substring(0, ALONE.length() - 2)));
         DUE.same("one byte too few", cut.open(4096), -10 - 28);
         DUE.same("what came before", Due.outHex(cut), Due.hex(Due.text(TEXT.substring(0, 31))));
         DUE.same("input then", cut.count(0), 0);
-        LzmaChains again = fed(2, Due.bytes(BOX));
+        LzmaChains again = Due.fed(2, Due.bytes(BOX));
         DUE.same("no memory", again.open(4095), -10 - 17);
         DUE.same("no OUT", again.count(1), 0);
     }
 
     /** What liblzma has packed. */
     private static void opensAs(String hex, int form, String due) {
-        LzmaChains x = fed(form, Due.bytes(hex));
+        LzmaChains x = Due.fed(form, Due.bytes(hex));
         DUE.same("open", x.open(1 << 20), due.length() / 2);
         DUE.same("OUT", Due.outHex(x), due);
     }
 
     private static void rule() {
-        LzmaChains x = fed(1, new byte[] {5});
+        LzmaChains x = Due.fed(1, new byte[] {5});
         DUE.same("rule ahead", x.rule(), 0);
         DUE.same("open", x.open(4096), -11);
         DUE.same("rule", x.rule(), 5);
@@ -424,7 +401,7 @@ public final class PromisesTest {
     }
 
     private static void pass() {
-        LzmaChains x = fed(1, TEXT);
+        LzmaChains x = Due.fed(1, TEXT);
         DUE.same("pass without OUT", x.pass(), 0);
         DUE.same("the input is OUT", x.count(0), 0);
         Due.put(x, Due.text(TEXT));
@@ -434,11 +411,11 @@ public final class PromisesTest {
         DUE.same("input", x.count(0), 23);
         DUE.same("OUT stays", Due.outHex(x), CHUNKS);
         DUE.same("open what was passed", x.open(4096), 38);
-        LzmaChains wild = fed(1, wild(1496));
+        LzmaChains wild = Due.fed(1, Due.wild(1496));
         wild.property(4, 1500);
         DUE.same("packed to just 1,500", wild.pack(0), 1500);
         DUE.same("pass of 1,500", wild.pass(), 1500);
-        LzmaChains more = fed(1, wild(1497));
+        LzmaChains more = Due.fed(1, Due.wild(1497));
         more.property(4, 1500);
         DUE.same("packed to 1,501", more.pack(0), 1501);
         more.octet(3);
@@ -448,7 +425,7 @@ public final class PromisesTest {
     }
 
     private static void out() {
-        LzmaChains x = fed(1, new byte[] {-1, 0});
+        LzmaChains x = Due.fed(1, new byte[] {-1, 0});
         DUE.throwsAt("out(0) of nothing", x, 0);
         x.pack(0);
         DUE.same("out(0)", x.out(0), 1);
@@ -461,21 +438,21 @@ public final class PromisesTest {
     }
 
     private static void step() {
-        LzmaChains x = fed(1, TEXT);
+        LzmaChains x = Due.fed(1, TEXT);
         x.pack(0);
         DUE.same("how many", x.step(-1, 0), 9);
         int[][] bad = {{-1, 1}, {-1, -1}, {-2, 0}, {9, 0}, {0, 4}, {0, -1}, {Integer.MAX_VALUE, 0}, {0x40000000, 0}};
         for (int[] v : bad) {
             DUE.same("step(" + v[0] + ", " + v[1] + ")", x.step(v[0], v[1]), LzmaChains.BAD);
         }
-        LzmaChains plain = fed(1, wild(600));
+        LzmaChains plain = Due.fed(1, Due.wild(600));
         plain.pack(0);
         DUE.same("choices of plain chunks", plain.step(-1, 0), 0);
-        LzmaChains two = fed(2, same(60, 65));
+        LzmaChains two = Due.fed(2, Due.run(60, 65));
         two.property(5, 30);
         two.pack(0);
         DUE.same("places in the second block", Due.steps(two), "0,0,1,0 2,1,29,1 0,30,1,0 2,31,29,1");
-        LzmaChains many = fed(0, Due.bytes(MANY_SHORTS));
+        LzmaChains many = Due.fed(0, Due.bytes(MANY_SHORTS));
         DUE.same("2,500 bytes", many.open(4096), 2500);
         DUE.same("2,500 choices", many.step(-1, 0), 2500);
         DUE.same("the last that is kept", many.step(1999, 1), 1999);
@@ -483,7 +460,7 @@ public final class PromisesTest {
     }
 
     private static void state() {
-        LzmaChains x = fed(0, "abab");
+        LzmaChains x = Due.fed(0, "abab");
         DUE.same("neither was", x.state(), -1);
         x.pack(3);
         DUE.same("a bad LEVEL", x.state(), -1);
@@ -494,7 +471,7 @@ public final class PromisesTest {
         DUE.same("opened", x.state(), 7);
         x.open(4096);
         DUE.same("nothing opened", x.state(), 0);
-        LzmaChains plain = fed(1, "aaaaaaaaaaaaaaaaaaaaaaaaaaaaaawxyz");
+        LzmaChains plain = Due.fed(1, "aaaaaaaaaaaaaaaaaaaaaaaaaaaaaawxyz");
         plain.property(4, 30);
         plain.pack(0);
         DUE.same("two chunks", plain.block(0, 4), 2);
@@ -502,7 +479,7 @@ public final class PromisesTest {
     }
 
     private static void block() {
-        LzmaChains x = fed(2, TEXT);
+        LzmaChains x = Due.fed(2, TEXT);
         x.property(5, 20);
         x.property(4, 7);
         x.pack(0);
@@ -515,11 +492,11 @@ public final class PromisesTest {
         x.pass();
         x.open(4096);
         DUE.same("opened", Due.blocks(x), BLOCKS);
-        LzmaChains alone = fed(0, TEXT);
+        LzmaChains alone = Due.fed(0, TEXT);
         alone.pack(0);
         DUE.same("none in form 0", alone.block(-1, 0), 0);
         DUE.same("block 0 of form 0", alone.block(0, 0), LzmaChains.BAD);
-        LzmaChains chunks = fed(1, new byte[] {1, 0, 1, 7, 8, 2, 0, 0, 9});
+        LzmaChains chunks = Due.fed(1, new byte[] {1, 0, 1, 7, 8, 2, 0, 0, 9});
         DUE.same("no end", chunks.open(4096), -19);
         DUE.same("no block then", chunks.block(0, 4), LzmaChains.BAD);
         Due.put(chunks, new byte[] {1, 0, 1, 7, 8, 2, 0, 0, 9, 0});
@@ -553,7 +530,7 @@ public final class PromisesTest {
 
     /** Sizes about 56 and 64, where the padding takes another block. */
     private static void shaOf(int size) {
-        byte[] bytes = same(size, 97);
+        byte[] bytes = Due.run(size, 97);
         LzmaChains x = new LzmaChains(0);
         Due.put(x, bytes);
         x.pack(0);
@@ -569,7 +546,7 @@ public final class PromisesTest {
     }
 
     private static LzmaChains opened(String text) {
-        LzmaChains x = fed(0, text);
+        LzmaChains x = Due.fed(0, text);
         x.pack(0);
         x.pass();
         x.open(4096);
@@ -591,13 +568,13 @@ public final class PromisesTest {
         DUE.same("turn(0, 257)", x.turn(0, 257, true), LzmaChains.BAD);
         DUE.same("turn(2, 1)", x.turn(2, 1, false), LzmaChains.BAD);
         DUE.same("turn(-1, 1)", x.turn(-1, 1, false), LzmaChains.BAD);
-        LzmaChains code = fed(1, Due.bytes("01000f" + "000000eb" + "ffffffeb" + "010000ea" + "fbffffeb" + "00"));
+        LzmaChains code = Due.fed(1, Due.bytes("01000f" + "000000eb" + "ffffffeb" + "010000ea" + "fbffffeb" + "00"));
         code.open(4096);
         DUE.same("BRANCH", code.turn(1, 0, false), 16);
         DUE.same("its place and 8 more", Due.outHex(code), "020000eb" + "020000eb" + "010000ea" + "000000eb");
         code.turn(1, 1, true);
         DUE.same("back", Due.outHex(code), "000000eb" + "ffffffeb" + "010000ea" + "fbffffeb");
-        LzmaChains rest = fed(1, Due.bytes("010006" + "00000000" + "0000eb" + "00"));
+        LzmaChains rest = Due.fed(1, Due.bytes("010006" + "00000000" + "0000eb" + "00"));
         rest.open(4096);
         rest.turn(1, 1, false);
         DUE.same("what is no four stays", Due.outHex(rest), "000000000000eb");
@@ -605,7 +582,7 @@ public final class PromisesTest {
     }
 
     private static void count() {
-        LzmaChains x = fed(0, TEXT);
+        LzmaChains x = Due.fed(0, TEXT);
         DUE.same("count(0)", x.count(0), 38);
         DUE.same("count(1)", x.count(1), 0);
         x.pack(0);
