@@ -29,6 +29,7 @@ public final class PromiseEdgesTest {
         boxFull();
         open();
         openBox();
+        again();
         rule();
         pass();
         out();
@@ -384,9 +385,12 @@ public final class PromiseEdgesTest {
         LzmaChains y = beforeFull(2, 793, 5, 8);
         DUE.same("a box above 3,000", y.pack(1), FULL);
         isEmpty(y);
-        LzmaChains far = beforeFull(2, 1500, 5, 1);
-        DUE.same("a box far above", far.pack(0), FULL);
-        isEmpty(far);
+        int[] blocks = {1, 7, 8, 9, 10, 11, 12, 13};
+        for (int block : blocks) {
+            LzmaChains far = beforeFull(2, 1500, 5, block);
+            DUE.same("a box far above, in blocks of " + block, far.pack(block % 3), FULL);
+            isEmpty(far);
+        }
     }
 
     private static void isEmpty(LzmaChains x) {
@@ -446,6 +450,27 @@ public final class PromiseEdgesTest {
         LzmaChains wrong = Due.fed(2, Maker.changed(box, check, box[check] + 1));
         DUE.same("the second check", wrong.open(4096), -10 - check - 1);
         DUE.same("OUT then", Due.outHex(wrong), Due.hex(Due.text("abc")));
+    }
+
+    private static void again() {
+        DUE.sentence("The input, which is empty then, is packed .. is opened");
+        byte[] bytes = Due.text("abcabcabcabcabcabcXabcabc");
+        for (int form = 0; form < 3; form++) {
+            LzmaChains x = Due.fed(form, bytes);
+            x.pack(0);
+            String first = Due.outHex(x);
+            x.pass();
+            DUE.same("opened", x.open(4096), bytes.length);
+            x.pass();
+            x.pack(0);
+            DUE.same("packed behind an open()", Due.outHex(x), first);
+            byte[] cut = Maker.cut(Due.bytes(first), first.length() / 2 - 1);
+            Due.put(x, cut);
+            DUE.same("a broken one", x.open(4096), -10 - cut.length);
+            Due.put(x, Due.bytes(first));
+            DUE.same("opened behind a broken one", x.open(4096), bytes.length);
+            DUE.same("OUT", Due.outHex(x), Due.hex(bytes));
+        }
     }
 
     private static void rule() {
@@ -614,6 +639,8 @@ public final class PromiseEdgesTest {
         }
         LzmaChains last = packed(0, Due.text("aaaaaaaa"));
         DUE.same("behind a REP", last.state(), 8);
+        last.open(4096);
+        DUE.same("behind an open() of nothing, after that", last.state(), 0);
         last.octet(65);
         last.pack(0);
         DUE.same("behind a LITERAL", last.state(), 0);
@@ -749,6 +776,11 @@ public final class PromiseEdgesTest {
             DUE.same("of " + size, y.turn(1, 0, true), size);
             DUE.same("stays", Due.outHex(y), Due.hex(few));
         }
+        LzmaChains shorter = holding(Due.run(8, 235));
+        Due.put(shorter, BoxMaker.plainChunks(Maker.row(1, 2, 3, 0, 5, 6, 7)));
+        shorter.open(4096);
+        shorter.turn(1, 0, false);
+        DUE.same("bytes that are no longer there", Due.outHex(shorter), "01020300050607");
         byte[] far = new byte[1400];
         Arrays.fill(far, (byte) 235);
         LzmaChains z = holding(far);

@@ -371,6 +371,14 @@ public final class RuleEdgesTest {
             Maker match = ab().match(2, away);
             broken("a MATCH follows", 0, match.alone(2), 13 + match.read(), 7, text("AB"));
         }
+        Maker[] others = {ab().match(3, 2), ab().rep(0, 4), ab().shortRep(), ab().match(2, 1).match(5, 3), ab().match(4, 1).rep(0, 5),
+            ab().match(3, 1).literals("C"), ab().rep(1, 2).literals("C"), ab().shortRep().literals("CD")};
+        for (Maker m : others) {
+            int size = m.size();
+            byte[] out = m.bytes();
+            right("nothing follows STATE " + m.state(), 0, m.alone(size), out);
+            right("the MARK follows STATE " + m.state(), 0, m.mark().alone(size), out);
+        }
         Maker marked = ab().mark();
         byte[] more = Maker.changed(marked.alone(2), 13 + marked.read() - 1, 1);
         broken("CODE is not 0 behind the MARK", 0, more, 13 + marked.read(), 7, text("AB"));
@@ -458,6 +466,9 @@ public final class RuleEdgesTest {
         broken("a last 0 in a size", 2, boxWith(BoxMaker.head(64, 7 + 128, 0, 33, 1, 0)), 16, 8, NONE);
         broken("a last 0 of three", 2, boxWith(BoxMaker.head(64, 7 + 128, 128, 0, 33, 1, 0)), 17, 8, NONE);
         broken("0 of one byte is a number", 2, boxWith(BoxMaker.head(128, 0, 33, 1, 0)), 12 + 12 + 7, 8, NONE);
+        byte[] just = Due.wild(128);
+        byte[] first = BoxMaker.boxOf(1, BoxMaker.head(128, 128, 1, 33, 1, 0), BoxMaker.plainChunks(just), just);
+        right("128", 2, first, just);
         byte[] wide = Due.wild(200);
         byte[] two = BoxMaker.boxOf(1, BoxMaker.head(128, 72 + 128, 1, 33, 1, 0), BoxMaker.plainChunks(wide), wide);
         right("a number of two bytes", 2, two, wide);
@@ -502,7 +513,7 @@ public final class RuleEdgesTest {
     private static void toldSizes() {
         DUE.sentence("sizes told that are others");
         int place = 12 + 12 + 7;
-        for (int told = 1; told < 12; told++) {
+        for (int told = 0; told < 12; told++) {
             byte[] packed = boxWith(BoxMaker.head(64, told, 33, 1, 0));
             byte[] whole = boxWith(BoxMaker.head(128, told, 33, 1, 0));
             if (told == 7) {
@@ -517,6 +528,12 @@ public final class RuleEdgesTest {
             }
         }
         right("both", 2, boxWith(BoxMaker.head(192, 7, 3, 33, 1, 0)), ABC);
+        byte[] second = BoxMaker.block(1, BoxMaker.head(192, 7, 3, 33, 1, 0), BoxMaker.plainChunks(ABC), ABC);
+        byte[] blocks = Maker.join(BoxMaker.plainBlock(1, ABC), second);
+        right("of the second block", 2, BoxMaker.box(1, blocks, BoxMaker.index(23, 3, 23, 3)), text("abcabc"));
+        byte[] other = BoxMaker.block(1, BoxMaker.head(128, 6, 33, 1, 0), BoxMaker.plainChunks(ABC), ABC);
+        broken("both blocks' bytes in the second", 2, Maker.join(BoxMaker.start(1), BoxMaker.plainBlock(1, ABC), other),
+            place + 24, 8, ABC);
         broken("the other way round", 2, boxWith(BoxMaker.head(192, 3, 7, 33, 1, 0)), place, 8, NONE);
     }
 
@@ -600,6 +617,21 @@ public final class RuleEdgesTest {
         int[] kinds = {0, 2, 4, 10, 129};
         for (int kind : kinds) {
             broken("kind " + kind, 2, Maker.join(front, BoxMaker.foot(8, 0, kind)), end, 11, ABC);
+        }
+        for (int n = 0; n < 9; n++) {
+            byte[] blocks = {};
+            int[] told = new int[2 * n];
+            for (int i = 0; i < n; i++) {
+                blocks = Maker.join(blocks, block);
+                told[2 * i] = 23;
+                told[2 * i + 1] = 3;
+            }
+            byte[] all = Maker.join(BoxMaker.start(1), blocks, BoxMaker.index(told));
+            int size = BoxMaker.index(told).length;
+            byte[] out = text("abcabcabcabcabcabcabcabcabc".substring(0, 3 * n));
+            right(n + " blocks", 2, Maker.join(all, BoxMaker.foot(size, 0, 1)), out);
+            broken(n + " blocks, more told", 2, Maker.join(all, BoxMaker.foot(size + 4, 0, 1)), all.length + 10, 11, out);
+            broken(n + " blocks, less told", 2, Maker.join(all, BoxMaker.foot(size - 4, 0, 1)), all.length + 10, 11, out);
         }
         byte[] right = Maker.join(front, BoxMaker.foot(8, 0, 1));
         broken("no 89", 2, Maker.changed(right, end, 88), end + 1, 11, ABC);

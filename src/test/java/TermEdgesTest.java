@@ -8,6 +8,9 @@ public final class TermEdgesTest {
 
     public static void main(String[] args) {
         carries();
+        plainBits();
+        anyChoices();
+        endMark();
         properties();
         states();
         literals();
@@ -20,10 +23,13 @@ public final class TermEdgesTest {
         levelTwo();
         shortTexts();
         parts();
+        laterParts();
+        longParts();
         chunkKinds();
         chunkStates();
         numbers();
         boxes();
+        manyBlocks();
         filters();
         DUE.finish();
     }
@@ -79,6 +85,68 @@ public final class TermEdgesTest {
         DUE.same("there were such bytes", carries > 1000 ? 1 : 0, 1);
         DUE.same("and such over 255", over[1] > 5 ? 1 : 0, 1);
         DUE.same("and such over 255, 255", over[2], 3);
+    }
+
+    private static void plainBits() {
+        DUE.sentence("A plain bit: RANGE is halved; if CODE is RANGE or more: 1, CODE falls by it.");
+        // The last bit that is 1 is a plain one, so that CODE is just RANGE there.
+        int[] far = {145, 161, 177, 209, 225, 241, 273, 289, 321, 1041};
+        for (int away : far) {
+            Maker m = new Maker().literals("abcdefgh");
+            while (m.size() < away) {
+                m.match(Math.min(273, Math.max(2, away - m.size())), 8);
+            }
+            m.match(4, away);
+            opensAs(away + " away as the last", m, m.size());
+        }
+    }
+
+    /** Choices of all kinds in any order, so that each CHANCE is a CHANCE of its own. */
+    private static void anyChoices() {
+        DUE.sentence("2 CHOICES.");
+        Random r = new Random(11);
+        for (int k = 0; k < 400; k++) {
+            int lc = r.nextInt(5);
+            Maker m = new Maker().with(lc, r.nextInt(5 - lc), r.nextInt(5));
+            m.literal(r.nextInt(256));
+            while (m.size() < 2700 && m.read() < 1400) {
+                anyChoice(m, r, k);
+            }
+            if (k % 2 == 0) {
+                m.match(2 + r.nextInt(272), Maker.MARK);
+            }
+            opensAs("any choices " + k, m, k % 4 == 0 ? -1 : m.size());
+        }
+    }
+
+    private static void anyChoice(Maker m, Random r, int k) {
+        int n = r.nextInt(10) == 0 ? 2 + r.nextInt(272) : 2 + r.nextInt(k % 3 == 0 ? 3 : 20);
+        int what = r.nextInt(8);
+        if (what < 2) {
+            m.literal(r.nextInt(k % 5 == 0 ? 256 : 40));
+        } else if (what < 4) {
+            m.match(n, 1 + r.nextInt(r.nextBoolean() ? m.size() : Math.min(m.size(), 140)));
+        } else if (what < 6) {
+            m.rep(r.nextInt(4), n);
+        } else if (what == 6) {
+            m.rep(0, n);
+        } else {
+            m.shortRep();
+        }
+    }
+
+    private static void endMark() {
+        DUE.sentence("2^32 is the END MARK (any LENGTH; packing: 2)");
+        String[] texts = {"", "A", "AAA", "abcabc", "abcabcabcXabc"};
+        for (String text : texts) {
+            LzmaChains x = Due.fed(0, text);
+            x.property(7, 1);
+            x.pack(0);
+            int n = x.step(-1, 0);
+            DUE.same("the last choice of " + text, Due.steps(x, n - 1, n), "7," + text.length() + ",0,0");
+            Maker m = madeOf("bits of " + text, x, Due.text(text), new Maker(), true);
+            DUE.same("STATE of " + text, x.state(), m.state());
+        }
     }
 
     private static void properties() {
@@ -390,6 +458,10 @@ public final class TermEdgesTest {
                 naive("rows of " + n + ", " + gap + " apart", 2, Maker.join(row, Maker.cut(apart(90), gap % 28), row, Maker.row(7), row));
             }
         }
+        DUE.sentence("7, 3 if its LENGTH is above 9, 5 more if above 17, and the number of bits of how far");
+        // 17, 9, 13 are 15 + 9 + 15; 20 and 19 would be 20 + 20.
+        chosenLast("17 and 9, not 20", 2, Due.text("ZdMkwzmoKPfvsLsLsLsLZdMkwzmoKPfvsLsLsLsLsLsLsLsLZdMkwzmoKPf"), 4096,
+            "1,14,6,2 1,20,17,20 3,37,9,2 1,46,13,28");
         DUE.sentence("(A LITERAL goes as SHORT, if R 0 is 1 or more and STATE is 7 or more.)");
         chosen(2, "AA", "0,0,1,0 0,1,1,0");
         byte[] period = new byte[279];
@@ -433,26 +505,45 @@ public final class TermEdgesTest {
         }
     }
 
-    /** The chunks that the choices of a packing make; a part without choices is plain. */
+    /** All choices, each asked for once, so that an object's 512 calls last. */
+    private static int[][] choices(LzmaChains x) {
+        int[][] all = new int[x.step(-1, 0)][4];
+        for (int i = 0; i < all.length; i++) {
+            for (int k = 0; k < 4; k++) {
+                all[i][k] = x.step(i, k);
+            }
+        }
+        return all;
+    }
+
     private static byte[] rebuilt(LzmaChains x, byte[] bytes, int chunk) {
-        Maker m = new Maker();
+        return rebuilt(choices(x), bytes, 0, bytes.length, chunk, new Maker());
+    }
+
+    /** The chunks that the choices of a packing make of a block; a part without choices is plain. */
+    private static byte[] rebuilt(int[][] choices, byte[] bytes, int base, int end, int chunk, Maker m) {
         byte[] all = {};
-        int i = 0;
         int next = 3;
         boolean bitsBefore = false;
-        for (int from = 0; from < bytes.length; from += chunk) {
-            int to = Math.min(bytes.length, from + chunk);
-            if (x.step(i, 0) != LzmaChains.BAD && x.step(i, 1) == from) {
-                m.chunk(next);
-                for (; x.step(i, 0) != LzmaChains.BAD && x.step(i, 1) < to; i++) {
-                    m.choice(x.step(i, 0), x.step(i, 2), x.step(i, 3), bytes[x.step(i, 1)] & 255);
+        for (int from = base; from < end; from += chunk) {
+            int to = Math.min(end, from + chunk);
+            boolean bits = false;
+            for (int[] c : choices) {
+                if (c[1] >= from && c[1] < to) {
+                    if (!bits) {
+                        m.chunk(next);
+                    }
+                    m.choice(c[0], c[2], c[3], bytes[c[1]] & 255);
+                    bits = true;
                 }
+            }
+            if (bits) {
                 all = Maker.join(all, m.bitChunk(next, to - from));
                 bitsBefore = true;
                 next = 0;
             } else {
                 byte[] part = Arrays.copyOfRange(bytes, from, to);
-                int control = from == 0 ? 1 : 2;
+                int control = from == base ? 1 : 2;
                 m.plain(control, part);
                 all = Maker.join(all, Maker.plainChunk(control, part));
                 next = bitsBefore ? 1 : 2;
@@ -493,6 +584,65 @@ public final class TermEdgesTest {
             x.pack(0);
             DUE.same("40 in parts of " + chunk, x.block(0, 4), (40 + chunk - 1) / chunk);
             DUE.same("bytes of it", Due.brief(x), Due.brief(rebuilt(x, Due.run(40, 65), chunk)));
+        }
+    }
+
+    private static void laterParts() {
+        DUE.sentence("At a place, to the end, with what is behind it");
+        byte[] run = Due.run(90, 65);
+        String due = "0,0,1,0 2,1,29,1 2,30,30,1 2,60,30,1";
+        for (int level = 0; level < 3; level++) {
+            LzmaChains x = Due.fed(1, run);
+            x.property(4, 30);
+            x.pack(level);
+            DUE.same("LEVEL " + level + " in three parts", Due.steps(x), due);
+            DUE.same("bytes of them", Due.brief(x), Due.brief(rebuilt(x, run, 30)));
+        }
+        for (int k = 0; k < 90; k++) {
+            byte[] bytes = chained(150, k);
+            LzmaChains x = Due.fed(1, bytes);
+            x.property(4, 20 + k);
+            x.pack(k % 3);
+            DUE.same("bytes " + k, Due.brief(x), Due.brief(rebuilt(x, bytes, 20 + k)));
+        }
+    }
+
+    private static void longParts() {
+        DUE.sentence("how many bytes less 1; two bytes: how many packed ones less 1");
+        int[] sizes = {255, 256, 257, 258, 511, 512, 513, 1023, 1024, 1025, 1499, 1500};
+        for (int size : sizes) {
+            byte[] bytes = Due.wild(size);
+            for (int i = 0; i < size; i++) {
+                bytes[i] = (byte) (bytes[i] & 31);
+            }
+            for (int level = 0; level < 3; level++) {
+                LzmaChains alone = Due.fed(0, bytes);
+                int bits = alone.pack(level) - 13;
+                LzmaChains x = Due.fed(1, bytes);
+                x.property(4, 1500);
+                DUE.same(size + " in one part", x.pack(level), 6 + bits + 1);
+                String head = Due.hex(Maker.row(224, size - 1 >> 8, size - 1, bits - 1 >> 8, bits - 1, 93));
+                StringBuilder got = new StringBuilder();
+                for (int i = 0; i < 6; i++) {
+                    got.append(String.format("%02x", x.out(i)));
+                }
+                DUE.same("its head", got.toString(), head);
+                x.pass();
+                DUE.same("opened", x.open(4096), size);
+                DUE.same("OUT", Due.brief(x), Due.brief(bytes));
+                LzmaChains box = Due.fed(2, bytes);
+                box.property(4, 1500);
+                box.property(5, 1500);
+                box.pack(level);
+                DUE.same("in a box", Due.blocks(box), "12,12," + (6 + bits + 1) + "," + size + ",1");
+            }
+        }
+        LzmaChains most = Due.fed(0, Due.run(1500, 65));
+        for (int level = 0; level < 3; level++) {
+            most.pack(level);
+            most.pass();
+            DUE.same("1,500 equal ones opened", most.open(4096), 1500);
+            most.pass();
         }
     }
 
@@ -627,6 +777,41 @@ public final class TermEdgesTest {
         }
     }
 
+    /** Blocks with bits, of odd sizes too, each with its check, as their choices make them. */
+    private static void manyBlocks() {
+        DUE.sentence("Then form 1; 0s to a multiple of four (from the head on); the check.");
+        int[] kinds = {0, 1, 4, 10};
+        for (int k = 0; k < 60; k++) {
+            byte[] bytes = chained(200, 1000 + k);
+            int block = 21 + 3 * k;
+            int chunk = 15 + 2 * k;
+            int kind = kinds[k % 4];
+            LzmaChains x = Due.fed(2, bytes);
+            x.property(4, chunk);
+            x.property(5, block);
+            x.property(6, kind);
+            x.pack(k % 3);
+            int[][] choices = choices(x);
+            byte[] blocks = {};
+            byte[] told = Maker.join(Maker.row(0), BoxMaker.v((200 + block - 1) / block));
+            for (int from = 0; from < 200; from += block) {
+                int to = Math.min(200, from + block);
+                byte[] part = Arrays.copyOfRange(bytes, from, to);
+                byte[] chunks = rebuilt(choices, bytes, from, to, chunk, new Maker());
+                blocks = Maker.join(blocks, BoxMaker.block(kind, BoxMaker.head(), chunks, part));
+                int size = 12 + chunks.length + BoxMaker.check(kind, part).length;
+                told = Maker.join(told, BoxMaker.v(size), BoxMaker.v(to - from));
+            }
+            byte[] due = BoxMaker.box(kind, blocks, BoxMaker.closed(told));
+            DUE.same("a box of blocks of " + block, Due.brief(x), Due.brief(due));
+            for (int times = 0; times < 2; times++) {
+                Due.put(x, due);
+                DUE.same("opened", x.open(4096), 200);
+                DUE.same("bytes", Due.brief(x), Due.brief(bytes));
+            }
+        }
+    }
+
     private static LzmaChains boxed(int kind, int size) {
         LzmaChains x = Due.fed(2, Due.wild(size));
         x.property(6, kind);
@@ -642,8 +827,42 @@ public final class TermEdgesTest {
                 for (int size = 300; size < 304; size++) {
                     filtered(distance, branch, size);
                 }
+                DUE.sentence("In a box DELTA, then BRANCH go ahead of the chunks, each block for itself.");
+                for (int block = 37; block < 45; block++) {
+                    filteredBlocks(Math.min(distance, 5), branch, block);
+                }
             }
         }
+    }
+
+    private static void filteredBlocks(int distance, int branch, int block) {
+        byte[] bytes = Due.run(3 * block + 2, 235);
+        byte[] blocks = {};
+        byte[] told = Maker.row(0, 4);
+        for (int from = 0; from < bytes.length; from += block) {
+            byte[] part = Arrays.copyOfRange(bytes, from, Math.min(bytes.length, from + block));
+            LzmaChains one = Due.fed(2, part);
+            set(one, distance, branch, block);
+            one.pack(0);
+            byte[] out = Due.out(one);
+            int size = one.block(0, 1) + one.block(0, 2) + 4;
+            blocks = Maker.join(blocks, Arrays.copyOfRange(out, 12, 12 + (size + 3) / 4 * 4));
+            told = Maker.join(told, BoxMaker.v(size), BoxMaker.v(part.length));
+        }
+        LzmaChains x = Due.fed(2, bytes);
+        set(x, distance, branch, block);
+        x.pack(0);
+        byte[] due = BoxMaker.box(1, blocks, BoxMaker.closed(told));
+        DUE.same("DELTA " + distance + ", BRANCH " + branch + " in blocks of " + block, Due.brief(x), Due.brief(due));
+        x.pass();
+        DUE.same("opened", x.open(4096), bytes.length);
+        DUE.same("bytes", Due.brief(x), Due.brief(bytes));
+    }
+
+    private static void set(LzmaChains x, int distance, int branch, int block) {
+        x.filter(0, distance);
+        x.filter(1, branch);
+        x.property(5, block);
     }
 
     private static void filtered(int distance, int branch, int size) {
