@@ -46,6 +46,11 @@ final class Maker {
         return made.size();
     }
 
+    /** How far back a copy may go. */
+    int reach() {
+        return made.size() - begun;
+    }
+
     byte[] bytes() {
         byte[] b = new byte[made.size()];
         for (int i = 0; i < b.length; i++) {

@@ -809,9 +809,11 @@ public final class PromiseEdgesTest {
         Due.put(x, Due.wild(1199));
         DUE.same("input", x.count(0), 1199);
         x.pack(0);
+        DUE.sentence("Input: at most 1,500 bytes; what is packed or opened, OUT: at most 3,000.");
         Due.put(x, Due.wild(1500));
         DUE.same("the most of the input", x.count(0), 1500);
         DUE.same("the most of OUT", x.count(1), 3000);
+        DUE.sentence("BAD: another number.");
         int[] others = {LEAST, -1, 2, 3, 256, MOST};
         for (int what : others) {
             DUE.same("count(" + what + ")", x.count(what), BAD);

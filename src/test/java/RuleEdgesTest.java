@@ -9,6 +9,7 @@ public final class RuleEdgesTest {
     private static final byte[] NONE = {};
 
     public static void main(String[] args) {
+        theFirst();
         tooEarly();
         moreThanItsChunk();
         firstBytes();
@@ -76,6 +77,25 @@ public final class RuleEdgesTest {
 
     private static byte[] run(int size) {
         return Due.run(size, 65);
+    }
+
+    private static void theFirst() {
+        DUE.sentence("(the first, as it is read)");
+        byte[] box = BoxMaker.plainBox(1, ABC);
+        int[] places = {5, 6, 7, 13, 14, 15, 16, 19};
+        int[] rules = {2, 8, 14, 8, 8, 8, 8, 8};
+        byte[] wrong = box;
+        for (int i = places.length - 1; i >= 0; i--) {
+            wrong = Maker.changed(wrong, places[i], 60);
+            broken("wrong from " + places[i] + " on", 2, wrong, places[i] + 1, rules[i], NONE);
+        }
+        byte[] alone = Maker.changed(Maker.alone(93, 0xFFFFFFFFL, 3001, ab().bits()), 13, 1);
+        broken("memory, size, first byte", 0, alone, 5, 15, NONE);
+        broken("properties ahead of them", 0, Maker.changed(alone, 0, 255), 1, 3, NONE);
+        broken("size, first byte", 0, Maker.changed(Maker.alone(93, 1, 3001, ab().bits()), 13, 1), 13, 13, NONE);
+        byte[] chunk = Maker.changed(Maker.changed(ended(ab().bitChunk(3, 2)), 5, 225), 6, 1);
+        broken("properties, first byte", 1, chunk, 6, 3, NONE);
+        broken("control, properties, first byte", 1, Maker.changed(chunk, 0, 128), 1, 5, NONE);
     }
 
     private static void tooEarly() {
@@ -709,6 +729,8 @@ public final class RuleEdgesTest {
         }
         byte[] bits = full(2996).bitChunk(3, 2996);
         right("four behind 2,996", 1, ended(bits, Maker.plainChunk(2, run(4))), run(3000));
+        byte[] most = Maker.join(Maker.row(1, 255, 255), run(1400));
+        broken("65,536 are told", 1, most, 1403, 1, run(1400));
         byte[] head = Maker.join(full(3000).bitChunk(3, 3000), Maker.row(2, 0, 3));
         broken("no byte of it is there", 1, head, head.length, 1, run(3000));
     }

@@ -10,6 +10,7 @@ public final class TermEdgesTest {
         carries();
         plainBits();
         anyChoices();
+        anyChunks();
         endMark();
         properties();
         states();
@@ -125,7 +126,7 @@ public final class TermEdgesTest {
         if (what < 2) {
             m.literal(r.nextInt(k % 5 == 0 ? 256 : 40));
         } else if (what < 4) {
-            m.match(n, 1 + r.nextInt(r.nextBoolean() ? m.size() : Math.min(m.size(), 140)));
+            m.match(n, 1 + r.nextInt(r.nextBoolean() ? m.reach() : Math.min(m.reach(), 140)));
         } else if (what < 6) {
             m.rep(r.nextInt(4), n);
         } else if (what == 6) {
@@ -133,6 +134,58 @@ public final class TermEdgesTest {
         } else {
             m.shortRep();
         }
+    }
+
+    /** Chunks of all kinds in any order that is allowed, each with choices of its own. */
+    private static void anyChunks() {
+        DUE.sentence("0 goes on, 1 all CHANCES, STATE, BACKS are as at first, 2 so, with new properties, 3 so, and the dictionary begins"
+            + " anew");
+        Random r = new Random(13);
+        for (int k = 0; k < 300; k++) {
+            Maker m = new Maker();
+            byte[] all = {};
+            int least = 3;
+            int chunks = 0;
+            while (m.size() < 2000 && all.length < 1300) {
+                boolean plain = r.nextInt(4) == 0;
+                int kind = least + r.nextInt(4 - least);
+                if (plain) {
+                    int control = least == 3 || r.nextInt(6) == 0 ? 1 : 2;
+                    byte[] bytes = new byte[1 + r.nextInt(40)];
+                    r.nextBytes(bytes);
+                    m.plain(control, bytes);
+                    all = Maker.join(all, Maker.plainChunk(control, bytes));
+                    least = control == 1 ? 2 : Math.max(1, least);
+                } else {
+                    all = Maker.join(all, anyChunk(m, r, kind, k));
+                    least = 0;
+                }
+                chunks++;
+            }
+            LzmaChains x = Due.fed(1, Maker.join(all, Maker.row(0)));
+            DUE.same("any chunks " + k, x.open(4096), m.size());
+            DUE.same("any chunks " + k + ": OUT", Due.brief(x), Due.brief(m.bytes()));
+            DUE.same("any chunks " + k + ": STATE", x.state(), m.state());
+            DUE.same("any chunks " + k + ": how many", x.block(0, 4), chunks);
+        }
+    }
+
+    private static byte[] anyChunk(Maker m, Random r, int kind, int k) {
+        m.chunk(kind);
+        if (kind > 1) {
+            int lc = r.nextInt(5);
+            m.with(lc, r.nextInt(5 - lc), r.nextInt(5));
+        }
+        int before = m.size();
+        int choices = 1 + r.nextInt(20);
+        for (int i = 0; i < choices; i++) {
+            if (m.reach() == 0) {
+                m.literal(r.nextInt(256));
+            } else {
+                anyChoice(m, r, k);
+            }
+        }
+        return m.bitChunk(kind, m.size() - before);
     }
 
     private static void endMark() {
