@@ -1520,13 +1520,14 @@ public final class LzmaChains {
             } else if (kind != SHORT) {
                 length = model.codeLength(Model.REP_LENGTHS, 0, pos);
             }
+            // The bits alone tell STATE and BACKS, whether or not the copy may then be done.
+            model.follow(kind, far);
             if (far == Model.MARK_FAR) {
                 takeMark(end < 0);
                 return true;
             }
             judgeCopy(far, length, end);
             ledger.addStep(kind, output.size, length, (int) far);
-            model.follow(kind, far);
             for (int i = 0; i < length; i++) {
                 output.put(output.get(output.size - (int) far));
             }
@@ -1562,7 +1563,6 @@ public final class LzmaChains {
                 source.fail(7);
             }
             ledger.addStep(END_MARK, output.size, 0, 0);
-            model.follow(END_MARK, Model.MARK_FAR);
         }
 
         // Behind all bytes that are told only the END MARK may come: what is none is seen at once.
@@ -1572,7 +1572,9 @@ public final class LzmaChains {
                 source.fail(7);
             }
             int length = model.codeLength(Model.LENGTHS, 0, pos);
-            takeMark(model.codeFar(0, length) == Model.MARK_FAR);
+            long far = model.codeFar(0, length);
+            model.follow(MATCH, far);
+            takeMark(far == Model.MARK_FAR);
         }
 
         void readChunks() {

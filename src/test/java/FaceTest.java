@@ -14,7 +14,7 @@ public final class FaceTest {
         "int pack(int)", "int pass()", "int property(int,int)", "int rule()", "int state()", "int step(int,int)",
         "int turn(int,int,boolean)"};
 
-    public static void main(String[] args) {
+    public static void main(String[] args) throws IllegalAccessException {
         TreeSet<String> methods = new TreeSet<>();
         for (Method m : LzmaChains.class.getDeclaredMethods()) {
             if (!Modifier.isPrivate(m.getModifiers()) && !m.isSynthetic()) {
@@ -26,11 +26,11 @@ public final class FaceTest {
         TreeSet<String> fields = new TreeSet<>();
         for (Field f : LzmaChains.class.getDeclaredFields()) {
             if (!Modifier.isPrivate(f.getModifiers())) {
-                fields.add(Modifier.toString(f.getModifiers()) + " " + f.getType() + " " + f.getName());
+                fields.add(Modifier.toString(f.getModifiers()) + " " + f.getType() + " " + f.getName() + " " + f.getInt(null));
             }
         }
         DUE.same("constants", fields.toString(),
-            "[public static final int BAD, public static final int FULL, public static final int NONE]");
+            "[public static final int BAD -1, public static final int FULL -3, public static final int NONE -2]");
         Constructor<?>[] made = LzmaChains.class.getDeclaredConstructors();
         DUE.same("constructors", made.length, 1);
         DUE.same("the constructor", list(made[0].getParameterTypes()), "(int)");

@@ -16,6 +16,7 @@ public final class RuleEdgesTest {
         firstOfBits();
         properties();
         beyondWhatThereIs();
+        stateOfRefused();
         beyondTheDictionary();
         dictionaryAnew();
         firstChunk();
@@ -185,6 +186,33 @@ public final class RuleEdgesTest {
             byte[] bytes = Maker.alone(93, 0x7FFFFFFFL, -1, m.bits());
             broken(away + " away", 0, bytes, 13 + m.read(), 4, text("ABC"));
         }
+    }
+
+    private static void stateOfRefused() {
+        DUE.sentence("STATE behind the last pack() or open()");
+        int[] first = {0, 7, 8, 8, 8, 8, 9};
+        int[] second = {0, 10, 11, 11, 11, 11, 11};
+        for (int kind = 1; kind < 7; kind++) {
+            Maker none = new Maker();
+            none.choice(kind, 2, 1, 0);
+            LzmaChains x = Due.fed(0, none.alone(-1));
+            x.open(4096);
+            DUE.same("a copy of kind " + kind + " where nothing is", x.state(), first[kind]);
+            DUE.same("it is no choice", x.step(-1, 0), 0);
+            if (kind < 6) {
+                Maker beyond = ab().match(2, 2);
+                beyond.choice(kind, 5, 2, 0);
+                LzmaChains y = Due.fed(0, beyond.alone(8));
+                y.open(4096);
+                DUE.same("rule of one beyond the size", y.rule(), 6);
+                DUE.same("a copy of kind " + kind + " beyond the size", y.state(), second[kind]);
+                DUE.same("it is no choice", y.step(-1, 0), 3);
+            }
+        }
+        LzmaChains mark = Due.fed(1, ended(ab().mark().bitChunk(3, 5)));
+        mark.open(4096);
+        DUE.same("an END MARK in a chunk", mark.state(), 7);
+        DUE.same("it is no choice", mark.step(-1, 0), 2);
     }
 
     private static void beyondTheDictionary() {

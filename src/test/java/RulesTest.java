@@ -1,7 +1,8 @@
 /**
  * Each RULE that an opening may break: what open() and rule() answer, what OUT, STATE, choices and
  * blocks are then. Streams and answers come from a second model (written in Python from the same
- * document by the same author, not kept here), not from LzmaChains.
+ * document by the same author, not kept here), not from LzmaChains; but the STATE behind a copy or an
+ * END MARK that is refused was written in by hand.
  */
 public final class RulesTest {
     private static final Due DUE = new Due("RulesTest");
@@ -101,37 +102,37 @@ public final class RulesTest {
             "-24 2 0 0 0||");
         opened("a copy at the beginning", 0, 4096, 4096,
             "5d00100000ffffffffffffffff00d383fbffffffc0000000",
-            "-28 4 0 0 0||");
+            "-28 4 8 0 0||");
         opened("SHORT at the beginning", 0, 4096, 4096,
             "5d00100000ffffffffffffffff00c83ffbfffffc000000",
-            "-28 4 0 0 0||");
+            "-28 4 9 0 0||");
         opened("one too far back", 0, 4096, 4096,
             "5d00100000ffffffffffffffff0020909c0a107fffffff00400000",
-            "-31 4 0 2 0|4142|");
+            "-31 4 7 2 0|4142|");
         opened("just to the beginning", 0, 4096, 4096,
             "5d00100000ffffffffffffffff0020909c06107fffffff00400000",
             "4 0 10 4 0|41424142|");
         opened("above the dictionary", 0, 4096, 4096,
             "5d02000000ffffffffffffffff0020908484bed25963ffff66580000",
-            "-32 4 0 3 0|414243|");
+            "-32 4 7 3 0|414243|");
         opened("just the dictionary", 0, 4096, 4096,
             "5d02000000ffffffffffffffff0020908484bc6b3963ffff66580000",
             "5 0 10 5 0|4142434243|");
         opened("a dictionary of 0", 0, 4096, 4096,
             "5d00000000ffffffffffffffff0020e83dffffffffe0000000",
-            "-30 4 0 1 0|41|");
+            "-30 4 8 1 0|41|");
         opened("a REP too far back", 0, 4096, 4096,
             "5d01000000ffffffffffffffff0020909c0610a2183bffffef07a000",
-            "-31 4 0 2 0|4142|");
+            "-31 4 7 2 0|4142|");
         opened("a copy beyond the size", 0, 4096, 4096,
             "5d0010000006000000000000000020909f04000000",
-            "-31 6 0 2 0|4142|");
+            "-31 6 7 2 0|4142|");
         opened("a copy just to the size", 0, 4096, 4096,
             "5d0010000007000000000000000020909f04000000",
             "7 0 7 3 0|41424142414241|");
         opened("END MARK ahead of the size", 0, 4096, 4096,
             "5d0010000003000000000000000020909cfffffffff0000000",
-            "-35 7 0 2 0|4142|");
+            "-35 7 7 2 0|4142|");
         opened("END MARK at the size", 0, 4096, 4096,
             "5d0010000002000000000000000020909cfffffffff0000000",
             "2 0 7 3 0|4142|");
@@ -146,7 +147,7 @@ public final class RulesTest {
             "-30 7 0 2 0|4142|");
         opened("a MATCH behind the size", 0, 4096, 4096,
             "5d001000000200000000000000002090a304000000",
-            "-31 7 0 2 0|4142|");
+            "-31 7 7 2 0|4142|");
         opened("END MARK, then CODE not 0", 0, 4096, 4096,
             "5d00100000ffffffffffffffff0020909cfffffffff0000001",
             "-35 7 7 3 0|4142|");
@@ -164,7 +165,7 @@ public final class RulesTest {
             "0 0 7 1 0||");
         opened("CODE all ones", 0, 4096, 4096,
             "5d00100000260000000000000000ffffffffffffff",
-            "-29 4 0 0 0||");
+            "-29 4 8 0 0||");
     }
 
     private static void chunks() {
@@ -254,10 +255,10 @@ public final class RulesTest {
             "12 0 4 5 0|444544454445444544454446|0,0,27,12,2");
         opened("bits 3, bits 3 that copies over the edge", 1, 4096, 4096,
             "e0000500075d0022115e04000000e0000600075d0023c6051800000000",
-            "-37 4 0 4 0|44454445444547|");
+            "-37 4 7 4 0|44454445444547|");
         opened("bits, plain 1, bits 2 that copies over the edge", 1, 4096, 4096,
             "e0000500075d0022115e0400000001000041c0000600075d0023c60d1800000000",
-            "-41 4 0 4 0|4445444544454147|");
+            "-41 4 7 4 0|4445444544454147|");
         opened("bits, control 2 copies from both", 1, 4096, 4096,
             "e0000500075d0022115e0400000002000258595aa000040005008c5ffc000000",
             "14 0 7 4 0|44454445444558595a4445444544|0,0,32,14,3");
@@ -272,7 +273,7 @@ public final class RulesTest {
             "-17 2 0 0 0||");
         opened("a copy beyond the chunk", 1, 4096, 4096,
             "e0000400075d0020909e0400000000",
-            "-24 6 0 2 0|4142|");
+            "-24 6 7 2 0|4142|");
         opened("one byte more told than there is", 1, 4096, 4096,
             "e0000600075d0020909e0400000000",
             "-24 1 7 3 0|414241424142|");
@@ -290,10 +291,10 @@ public final class RulesTest {
             "-24 7 7 3 0|414241424142|");
         opened("END MARK in a chunk", 1, 4096, 4096,
             "e00004000b5d0020909cfffffffff000000000",
-            "-28 7 0 2 0|4142|");
+            "-28 7 7 2 0|4142|");
         opened("above the property's dictionary", 1, 2, 4096,
             "e0000600085d0020908485f129000000",
-            "-25 4 0 3 0|414243|");
+            "-25 4 7 3 0|414243|");
         opened("above 3,000 by a copy", 1, 4096, 4096,
             "e00bb700155d0020effbbffea3b15ee5f83fb2aa2655f8681efed000800001000400c417e69500",
             "-48 13 11 12 0|3000:93aaf669|");

@@ -690,6 +690,18 @@ public final class TermEdgesTest {
                 DUE.same("in a box", Due.blocks(box), "12,12," + (6 + bits + 1) + "," + size + ",1");
             }
         }
+        StringBuilder seen = new StringBuilder();
+        for (int size = 300; size < 340; size++) {
+            byte[] bytes = Due.wild(size);
+            for (int i = 0; i < size; i++) {
+                bytes[i] = (byte) (bytes[i] & 31);
+            }
+            LzmaChains x = Due.fed(1, bytes);
+            int packed = x.pack(0) - 7;
+            seen.append(packed == 256 || packed == 257 ? "" + packed + " " : "");
+            DUE.same("how many packed of " + size, 256 * x.out(3) + x.out(4), packed - 1);
+        }
+        DUE.same("the edges were among them", seen.indexOf("256") >= 0 && seen.indexOf("257") >= 0 ? 1 : 0, 1);
         LzmaChains most = Due.fed(0, Due.run(1500, 65));
         for (int level = 0; level < 3; level++) {
             most.pack(level);
