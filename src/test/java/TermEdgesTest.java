@@ -901,7 +901,10 @@ public final class TermEdgesTest {
     }
 
     private static void filteredBlocks(int distance, int branch, int block) {
-        byte[] bytes = Due.run(3 * block + 2, 235);
+        byte[] bytes = Due.wild(3 * block + 2);
+        for (int i = 0; i < bytes.length; i++) {
+            bytes[i] = i % 7 == 3 || bytes[i] > 0 ? (byte) 235 : bytes[i];
+        }
         byte[] blocks = {};
         byte[] told = Maker.row(0, 4);
         for (int from = 0; from < bytes.length; from += block) {
