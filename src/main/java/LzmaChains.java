@@ -92,8 +92,9 @@ public final class LzmaChains {
             packer.noteChunks();
         } else {
             packer.writeStart();
-            for (int from = 0; from < input.size && output.size <= MOST_OUT; from += settings.block) {
-                int to = Math.min(from + settings.block, input.size);
+            int most = Math.max(1, settings.block);
+            for (int from = 0; from < input.size && output.size <= MOST_OUT; from += most) {
+                int to = Math.min(from + most, input.size);
                 packer.writeHead(from, to);
                 packer.writeChunks(from, to);
                 packer.writeTail(from, to);
@@ -1173,8 +1174,9 @@ public final class LzmaChains {
             chunks = 0;
             model.reset();
             int sinceBits = -1;
-            for (int from = base; from < end && output.size <= MOST_OUT; from += settings.chunk) {
-                int to = Math.min(from + settings.chunk, end);
+            int most = Math.max(1, settings.chunk);
+            for (int from = base; from < end && output.size <= MOST_OUT; from += most) {
+                int to = Math.min(from + most, end);
                 int kind = from == base ? 3 : sinceBits < 0 ? 2 : sinceBits > 0 ? 1 : 0;
                 boolean packed = false;
                 if (to - from > 5) {
